@@ -938,7 +938,7 @@ public final class BurntEnds {
                 case LIT:
                     return Integer.bitCount(candles.lit[man]);
                 case JUNES:
-                    return candles.junesLeft(man);
+                    return Long.bitCount(candles.junesIn(man));
                 case WINDY:
                     return windy ? 1 : 0;
                 case TOP:
@@ -1503,10 +1503,15 @@ public final class BurntEnds {
             return inch >= top[man] && inch < inches[man] - low[man];
         }
 
-        int junesLeft(int man) {
+        /** The inches of JUNES LEFT, as bits. */
+        long junesIn(int man) {
             long ahead = (1L << top[man]) - 1;
             long upToLow = (1L << (inches[man] - low[man])) - 1;
-            return Long.bitCount(junes[man] & upToLow & ~ahead);
+            return junes[man] & upToLow & ~ahead;
+        }
+
+        int junesLeft(int man) {
+            return Long.bitCount(junesIn(man));
         }
 
         boolean isLit(int man, int end) {
@@ -1669,15 +1674,12 @@ public final class BurntEnds {
                     candles.seen[man] = Math.min(MOST_SEEN, candles.seen[man] + 1);
                 }
                 if (candles.lit[man] != 0) {
-                    int more = glowOf(candles, man, windy);
+                    long worth = told.laws.worth(GLOW_RULE, candles, man, windy);
+                    int without = Integer.bitCount(candles.lit[man]);
+                    int more = worth == ERROR ? without : within(worth, 999);
                     candles.glow = Math.min(MOST_GLOW, candles.glow + more);
                 }
             }
-        }
-
-        private int glowOf(Candles candles, int man, boolean windy) {
-            long worth = told.laws.worth(GLOW_RULE, candles, man, windy);
-            return worth == ERROR ? Integer.bitCount(candles.lit[man]) : within(worth, 999);
         }
     }
 
