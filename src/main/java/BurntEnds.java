@@ -95,7 +95,7 @@ public final class BurntEnds {
 
     private final int[] tape = new int[MOST_TAPE];
     private int taped;
-    private final Reader reader = new Reader();
+    private final TextReading reading = new TextReading();
     private Told told = new Told();
     private Told spare = new Told();
     private final Candles now = new Candles();
@@ -141,7 +141,7 @@ public final class BurntEnds {
             return NOT_SO;
         }
         taped = 0;
-        int lines = reader.read(tape, n, spare);
+        int lines = reading.read(tape, n, spare);
         if (lines < 0) {
             return NONE;
         }
@@ -157,9 +157,9 @@ public final class BurntEnds {
 
     public int fault(int what) {
         if (what == 0) {
-            return reader.wrong;
+            return reading.wrong;
         }
-        return what == 1 ? reader.wrongPlace : NONE;
+        return what == 1 ? reading.wrongPlace : NONE;
     }
 
     // ---- what was told, and what is
@@ -928,7 +928,7 @@ public final class BurntEnds {
             if (kind == NOT) {
                 return 1;
             }
-            return Reader.isBinary(kind) ? 2 : 0;
+            return TextReading.isBinary(kind) ? 2 : 0;
         }
 
         private long ownWorth(int k, Candles candles, int man, boolean windy) {
@@ -999,7 +999,7 @@ public final class BurntEnds {
     }
 
     /** The TOKENS of a TEXT, one behind another. */
-    private static final class Scanner {
+    private static final class Tokens {
         private int[] bytes = new int[0];
         private int length;
         private int at;
@@ -1108,10 +1108,10 @@ public final class BurntEnds {
     }
 
     /** Reads a TEXT, and keeps the FAULT of the latest one. */
-    private static final class Reader {
+    private static final class TextReading {
         int wrong;
         int wrongPlace = NONE;
-        private final Scanner scanner = new Scanner();
+        private final Tokens tokens = new Tokens();
         private Told told = new Told();
         /** Signs and '(' whose right side isn't read to its end. */
         private final int[] waiting = new int[MOST_KNOTS + MOST_OPEN];
@@ -1124,13 +1124,13 @@ public final class BurntEnds {
             told.forget();
             wrong = 0;
             wrongPlace = NONE;
-            scanner.begin(tape, n);
+            tokens.begin(tape, n);
             int lines = 0;
-            while (lines <= n && scanner.kind != END) {
+            while (lines <= n && tokens.kind != END) {
                 if (!readLine() || !isNext(SEMICOLON)) {
                     return NONE;
                 }
-                scanner.step();
+                tokens.step();
                 lines++;
             }
             return lines;
@@ -1138,30 +1138,30 @@ public final class BurntEnds {
 
         private boolean fails(int what) {
             wrong = what;
-            wrongPlace = scanner.place;
+            wrongPlace = tokens.place;
             return false;
         }
 
         private boolean isNext(int kind) {
-            return scanner.kind == kind || fails(STRANGE);
+            return tokens.kind == kind || fails(STRANGE);
         }
 
         private boolean isNumber(int least, int most) {
             if (!isNext(NUMBER)) {
                 return false;
             }
-            return (scanner.value >= least && scanner.value <= most) || fails(TOO_MUCH);
+            return (tokens.value >= least && tokens.value <= most) || fails(TOO_MUCH);
         }
 
         private boolean isPersonTold() {
             if (!isNext(NAME)) {
                 return false;
             }
-            return told.find(scanner.value) >= 0 || fails(NOBODY);
+            return told.find(tokens.value) >= 0 || fails(NOBODY);
         }
 
         private boolean readLine() {
-            switch (scanner.kind) {
+            switch (tokens.kind) {
                 case MAN:
                     return readPerson();
                 case JUNE:
@@ -1187,20 +1187,20 @@ public final class BurntEnds {
             if (told.people >= MOST_PEOPLE) {
                 return fails(TOO_MUCH);
             }
-            scanner.step();
+            tokens.step();
             if (!isNext(NAME)) {
                 return false;
             }
-            int letters = scanner.value;
+            int letters = tokens.value;
             if (told.find(letters) >= 0) {
                 return fails(TOLD_ALREADY);
             }
-            scanner.step();
+            tokens.step();
             if (!isNumber(1, MOST_INCHES)) {
                 return false;
             }
-            told.addPerson(letters, scanner.value);
-            scanner.step();
+            told.addPerson(letters, tokens.value);
+            tokens.step();
             return true;
         }
 
@@ -1208,21 +1208,21 @@ public final class BurntEnds {
             if (told.junesTold >= MOST_JUNES) {
                 return fails(TOO_MUCH);
             }
-            scanner.step();
+            tokens.step();
             if (!isPersonTold()) {
                 return false;
             }
-            int man = told.find(scanner.value);
-            scanner.step();
+            int man = told.find(tokens.value);
+            tokens.step();
             if (!isNumber(0, MOST_INCHES - 1)) {
                 return false;
             }
-            if (told.isJune(man, scanner.value)) {
+            if (told.isJune(man, tokens.value)) {
                 return fails(TOLD_ALREADY);
             }
-            told.junes[man] |= 1L << scanner.value;
+            told.junes[man] |= 1L << tokens.value;
             told.junesTold++;
-            scanner.step();
+            tokens.step();
             return true;
         }
 
@@ -1230,22 +1230,22 @@ public final class BurntEnds {
             if (deeds.isFull()) {
                 return fails(TOO_MUCH);
             }
-            scanner.step();
+            tokens.step();
             if (!isPersonTold()) {
                 return false;
             }
-            int man = told.find(scanner.value);
-            scanner.step();
+            int man = told.find(tokens.value);
+            tokens.step();
             if (!isNumber(0, 1)) {
                 return false;
             }
-            int end = scanner.value;
-            scanner.step();
+            int end = tokens.value;
+            tokens.step();
             if (!isNumber(0, 99)) {
                 return false;
             }
-            deeds.add(man, end, scanner.value);
-            scanner.step();
+            deeds.add(man, end, tokens.value);
+            tokens.step();
             return true;
         }
 
@@ -1253,16 +1253,16 @@ public final class BurntEnds {
             if (told.lendsTold >= MOST_LENDS) {
                 return fails(TOO_MUCH);
             }
-            scanner.step();
+            tokens.step();
             if (!isPersonTold()) {
                 return false;
             }
-            int lender = told.find(scanner.value);
-            scanner.step();
+            int lender = told.find(tokens.value);
+            tokens.step();
             if (!isPersonTold()) {
                 return false;
             }
-            int man = told.find(scanner.value);
+            int man = told.find(tokens.value);
             if (lender == man) {
                 return fails(ONESELF);
             }
@@ -1271,7 +1271,7 @@ public final class BurntEnds {
             }
             told.lendersOf[man] |= 1 << lender;
             told.lendsTold++;
-            scanner.step();
+            tokens.step();
             return true;
         }
 
@@ -1279,13 +1279,13 @@ public final class BurntEnds {
             if (told.hasDraft) {
                 return fails(TOLD_ALREADY);
             }
-            scanner.step();
+            tokens.step();
             if (!isNumber(0, 100)) {
                 return false;
             }
             told.hasDraft = true;
-            told.draft = scanner.value;
-            scanner.step();
+            told.draft = tokens.value;
+            tokens.step();
             return true;
         }
 
@@ -1293,26 +1293,26 @@ public final class BurntEnds {
             if (told.hasSeed) {
                 return fails(TOLD_ALREADY);
             }
-            scanner.step();
+            tokens.step();
             if (!isNumber(0, 99999)) {
                 return false;
             }
             told.hasSeed = true;
-            told.seed = scanner.value;
-            scanner.step();
+            told.seed = tokens.value;
+            tokens.step();
             return true;
         }
 
         private boolean readLaw() {
-            scanner.step();
-            if (scanner.kind < BURN || scanner.kind > RECALL) {
+            tokens.step();
+            if (tokens.kind < BURN || tokens.kind > RECALL) {
                 return fails(STRANGE);
             }
-            int rule = scanner.kind - BURN;
+            int rule = tokens.kind - BURN;
             if (told.laws.isTold(rule)) {
                 return fails(TOLD_ALREADY);
             }
-            scanner.step();
+            tokens.step();
             int start = told.laws.placedSoFar();
             if (!readExpression()) {
                 return false;
@@ -1328,7 +1328,7 @@ public final class BurntEnds {
             boolean wantsPart = true;
             boolean mayBeNot = true;
             for (int k = 0; k <= MOST_TAPE; k++) {
-                int kind = scanner.kind;
+                int kind = tokens.kind;
                 if (wantsPart) {
                     if (!takesPart(mayBeNot)) {
                         return false;
@@ -1351,13 +1351,13 @@ public final class BurntEnds {
                 } else {
                     return fails(STRANGE);
                 }
-                scanner.step();
+                tokens.step();
             }
             return fails(STRANGE);
         }
 
         private boolean takesPart(boolean mayBeNot) {
-            int kind = scanner.kind;
+            int kind = tokens.kind;
             if (kind == OPEN) {
                 if (open >= MOST_OPEN) {
                     return fails(TOO_MUCH);
@@ -1376,13 +1376,13 @@ public final class BurntEnds {
             if (kind != NUMBER && (kind < LEFT || kind > HOUR)) {
                 return fails(STRANGE);
             }
-            if (kind == NUMBER && scanner.value > MOST_NUMBER) {
+            if (kind == NUMBER && tokens.value > MOST_NUMBER) {
                 return fails(TOO_MUCH);
             }
             if (!takesKnot()) {
                 return false;
             }
-            told.laws.place(kind, scanner.value);
+            told.laws.place(kind, tokens.value);
             return true;
         }
 

@@ -7,6 +7,7 @@ public final class GameTest {
     public static void main(String[] args) {
         game();
         gameByChance();
+        longGame();
         rests();
         calm();
         Check.finish();
@@ -93,6 +94,45 @@ public final class GameTest {
             }
             Check.due("game 0 of " + words, x.game(0, 0), best);
             Check.due("game 1 of " + words, x.game(0, 1), first);
+        }
+    }
+
+    /** All 60 inches, each worth kept once found. */
+    private static void longGame() {
+        Random r = new Random(3);
+        for (int k = 0; k < 40; k++) {
+            int length = 60 - k / 10;
+            StringBuilder words = new StringBuilder("man a " + length + ";");
+            long junes = 0;
+            for (int j = 0; j < 12; j++) {
+                int inch = j == 0 ? 0 : j == 1 ? length - 1 : r.nextInt(length);
+                if ((junes >> inch & 1) == 0) {
+                    junes |= 1L << inch;
+                    words.append("june a " + inch + ";");
+                }
+            }
+            int[][] worth = new int[length + 1][length + 1];
+            int first = 0;
+            for (int many = 1; many <= length; many++) {
+                for (int from = 0; from + many <= length; from++) {
+                    int best = Integer.MIN_VALUE;
+                    first = 0;
+                    for (int move : MOVES) {
+                        int takes = move % 10;
+                        if (takes <= many) {
+                            int at = move > 10 ? from + many - takes : from;
+                            int gain = Long.bitCount(junes >> at & (1L << takes) - 1);
+                            int rest = worth[move > 10 ? from : from + takes][many - takes];
+                            first = gain - rest > best ? move : first;
+                            best = Math.max(best, gain - rest);
+                        }
+                    }
+                    worth[from][many] = best;
+                }
+            }
+            BurntEnds x = Check.told(words.toString());
+            Check.due("long game 0 of " + words, x.game(0, 0), worth[0][length]);
+            Check.due("long game 1 of " + words, x.game(0, 1), first);
         }
     }
 

@@ -83,7 +83,7 @@ public final class RulesTest {
         String[] banned = {
             "->", "::", "package ", "finally", "synchronized", "assert ", "catch", "hashCode", "equals(", "System.out",
             "Exact(", "static {", "System.nano", "System.current", "Random", "@", "\" +", "+ \"", "<>", "instanceof",
-            "Scanner(System", "Iterator", "getMessage", "double", "float"
+            "Iterator", "getMessage", "double", "float"
         };
         for (String word : banned) {
             Check.due("'" + word + "' in the source", text.contains(word), false);

@@ -257,6 +257,16 @@ public final class StateTest {
                 Check.due("draft " + draft, Check.man(x, 0, 1), 60 - gone);
             }
         }
+        BurntEnds unsown = Check.told("man a 60;light a 0 0;draft 30;law burn windy;seed 4711;");
+        Check.text(unsown, "man a 60;light a 0 0;draft 30;law burn windy;");
+        long last = 0;
+        int left = 60;
+        for (int k = 0; k < 40; k++) {
+            last = (last * 1103515245L + 12345L) % (1L << 31);
+            left -= last / 65536 % 100 < 30 ? 1 : 0;
+            unsown.go(1);
+            Check.due("from 0 on without a seed", Check.man(unsown, 0, 1), left);
+        }
         BurntEnds always = Check.told("man a 60;light a 0 0;draft 100;seed 4711;");
         always.go(5);
         Check.due("draft 100", Check.man(always, 0, 1), 50);
@@ -354,6 +364,7 @@ public final class StateTest {
         Check.due("20 at most", x.count(14), 20);
         for (int k = 19; k >= 0; k--) {
             Check.due("undo", x.undo(), k);
+            Check.due("LEFT by then", Check.man(x, 0, 1), 24 - k);
         }
         Check.due("the first five stay cut", Check.man(x, 0, 1), 24);
         Check.due("no more", x.undo(), -1);

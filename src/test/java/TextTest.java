@@ -124,6 +124,15 @@ public final class TextTest {
         fault("man a 5", 1, 7);
         fault("man a 5  \n", 1, 10);
         fault("man 5 a;", 1, 4);
+        fault("man;", 1, 3);
+        fault("man a;", 1, 5);
+        fault("june;", 1, 4);
+        fault("light;", 1, 5);
+        fault("blow;", 1, 4);
+        fault("lend;", 1, 4);
+        fault("law;", 1, 3);
+        fault("man a 5;light a;", 1, 15);
+        fault("man a 5;blow a 1;", 1, 16);
         fault("man abcdefg 5;", 1, 4);
         fault("man burn 5;", 1, 4);
         fault("man or 5;", 1, 4);
@@ -224,6 +233,10 @@ public final class TextTest {
     private static void grammar() {
         fault("law burn 1<2<3;", 1, 12);
         fault("law burn 1=2<>3;", 1, 12);
+        fault("law burn 1<2+3<4;", 1, 14);
+        fault("law burn 1<2*3<4;", 1, 14);
+        fault("law burn not 1+2<3-4>5;", 1, 20);
+        fault("law burn 1 and 2<(3<4)<5;", 1, 22);
         good("law burn (1<2)<3;", 1);
         good("law burn 1<(2<3) and 4=5;", 1);
         good("law burn 1<2 and 3<4 or 5<6;", 1);
@@ -261,6 +274,7 @@ public final class TextTest {
         fault(sum + ";law glow (1+1);", 2, sum.length() + 12);
         fault(sum + "+1+1;", 2, sum.length() + 1);
         fault(sum + ";law glow not 1;", 2, sum.length() + 14);
+        fault(sum + ";law glow not not 1;", 2, sum.length() + 14);
         // one that can't stand there is the lesser FAULT
         fault(sum + ";law glow 1 1;", 1, sum.length() + 12);
         fault(sum + ";law glow 1+", 2, sum.length() + 11);
