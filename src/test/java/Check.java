@@ -54,6 +54,27 @@ final class Check {
         return x;
     }
 
+    /** A text without a FAULT: how many LINES. */
+    static void good(String text, int lines) {
+        BurntEnds x = new BurntEnds();
+        due("text of: " + text, text(x, text), lines);
+        due("fault(0) of: " + text, x.fault(0), 0);
+        due("fault(1) of: " + text, x.fault(1), -1);
+    }
+
+    static void fault(String text, int what, int place) {
+        BurntEnds x = new BurntEnds();
+        due("text of: " + text, text(x, text), -1);
+        due("fault(0) of: " + text, x.fault(0), what);
+        due("fault(1) of: " + text, x.fault(1), place);
+    }
+
+    /** A text whose FAULT stands behind the '^', which is no part of it. */
+    static void broken(int what, String marked) {
+        int place = marked.indexOf('^');
+        fault(marked.substring(0, place) + marked.substring(place + 1), what, place);
+    }
+
     static int letters(String name) {
         int packed = 0;
         for (int k = 0; k < 6; k++) {

@@ -17,17 +17,11 @@ public final class TextTest {
     }
 
     private static void fault(String text, int what, int place) {
-        BurntEnds x = new BurntEnds();
-        Check.due("text of: " + text, Check.text(x, text), -1);
-        Check.due("fault(0) of: " + text, x.fault(0), what);
-        Check.due("fault(1) of: " + text, x.fault(1), place);
+        Check.fault(text, what, place);
     }
 
     private static void good(String text, int lines) {
-        BurntEnds x = new BurntEnds();
-        Check.due("text of: " + text, Check.text(x, text), lines);
-        Check.due("fault(0) of: " + text, x.fault(0), 0);
-        Check.due("fault(1) of: " + text, x.fault(1), -1);
+        Check.good(text, lines);
     }
 
     private static void newObject() {
