@@ -135,6 +135,10 @@ public final class AskEdgesTest {
         Check.due("in 199", Check.told(words + "198;").alike(0, 1), 199);
         Check.due("in 199", Check.told(words + "198;").alike(1, 0), 199);
         Check.due("not by then", Check.told(words + "199;").alike(0, 1), -2);
+        for (int draft = 49; draft <= 50; draft++) {
+            BurntEnds x = Check.told("man a 60;man b 40;light a 0 0;seed 5;draft " + draft + ";");
+            Check.due("WINDY as it goes at " + draft, x.alike(0, 1), draft == 49 ? 20 : 10);
+        }
     }
 
     /** "none of both, too (0: now)"; "NONE: no such PEOPLE, alike" */
@@ -424,9 +428,17 @@ public final class AskEdgesTest {
     /** "(.. 0: it is OUT). Integer.MIN_VALUE: no such ones." */
     private static void game() {
         BurntEnds x = game(5, "JJJ");
+        Check.due("ahead of it", x.game(0, 0) * 100 + x.game(0, 1), 102);
         x.cut(0, 0, 5);
         Check.due("OUT", x.game(0, 0), 0);
         Check.due("OUT: he takes nothing", x.game(0, 1), 0);
+        BurntEnds second = Check.told("man a 5;man b 6;june b 1;june b 2;june b 4;june a 0;");
+        second.cut(0, 0, 5);
+        second.cut(1, 0, 2);
+        second.cut(1, 1, 1);
+        Check.due("what is LEFT of b: J.J", second.game(1, 0) * 100 + second.game(1, 1), 1);
+        second.cut(1, 0, 1);
+        Check.due("what is LEFT of b: .J", second.game(1, 0) * 100 + second.game(1, 1), 102);
         for (int wrong : new int[] {-1, 2, MIN, MAX}) {
             Twins.refused("what " + wrong, Twins::busy, y -> y.game(0, wrong), MIN);
         }

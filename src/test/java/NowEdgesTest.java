@@ -38,6 +38,7 @@ public final class NowEdgesTest {
         goBehindTheLastHour();
         undo();
         undoTwentyAtMost();
+        undoTwentyOfAllKinds();
         undoneByHours();
         keepAndBack();
         imageKeepsAllBut();
@@ -371,6 +372,15 @@ public final class NowEdgesTest {
         Check.due("0 and ERROR", worth("0 and 1/0"), Long.MIN_VALUE);
         Check.due("ERROR and 0", worth("1/0 and 0"), Long.MIN_VALUE);
         Check.due("0 times ERROR", worth("0*(1/0)"), Long.MIN_VALUE);
+        int[] values = {-2, -1, 0, 1, 2};
+        for (int a : values) {
+            Check.due("not " + a, worth("not (" + (a + 2) + "-2)"), a == 0 ? 1 : 0);
+            for (int b : values) {
+                String both = "(" + (a + 2) + "-2)%(" + (b + 2) + "-2)";
+                Check.due(a + " and " + b, worth(both.replace("%", " and ")), a != 0 && b != 0 ? 1 : 0);
+                Check.due(a + " or " + b, worth(both.replace("%", " or ")), a != 0 || b != 0 ? 1 : 0);
+            }
+        }
         Check.due("-1 is as 1", worth("0-1 and 7"), 1);
         Check.due("7 or 7", worth("7 or 7"), 1);
         Check.due("not 7", worth("not 7"), 0);
@@ -422,6 +432,9 @@ public final class NowEdgesTest {
         for (int what = 0; what < out.length; what++) {
             Check.due("OUT: " + what, Check.man(x, 0, what), out[what]);
         }
+        x.cut(1, 1, 58);
+        Check.due("the last of two", Check.man(x, 1, 3), 1);
+        x.undo();
         x.cut(1, 0, 59);
         Check.due("the last inch alone", Check.man(x, 1, 2), 59);
         Check.due("its JUNE", Check.man(x, 1, 5), 1);
@@ -657,6 +670,27 @@ public final class NowEdgesTest {
             }
             Check.due("no more", x.undo(), -1);
             Check.due("those ahead of 20 stay", Check.man(x, 0, 1), 60 - Math.max(0, acts - 20));
+        }
+    }
+
+    /** Of more than 20, of several PEOPLE and of all kinds: each stays as it was ahead of it. */
+    private static void undoTwentyOfAllKinds() {
+        for (int acts = 18; acts <= 26; acts++) {
+            BurntEnds x = Check.told("man a 60;man b 50;man c 40;");
+            String[] ahead = new String[acts];
+            for (int k = 0; k < acts; k++) {
+                ahead[k] = nowOf(x);
+                int man = k * 2 % 3;
+                int end = k / 3 % 2;
+                boolean done = k % 4 == 3 ? x.cut(man, end, k) >= 0 : x.light(man, end) || x.blow(man, end);
+                Check.due("done " + k, done, true);
+            }
+            for (int k = acts - 1; k >= Math.max(0, acts - 20); k--) {
+                Check.due("undo " + k + " of " + acts, x.undo(), k - Math.max(0, acts - 20));
+                Check.due("as ahead of " + k, nowOf(x).equals(ahead[k]), true);
+            }
+            Check.due("no more", x.undo(), -1);
+            Check.due("as it is", nowOf(x).equals(ahead[Math.max(0, acts - 20)]), true);
         }
     }
 

@@ -39,6 +39,9 @@ public final class TextEdgesTest {
         toldAhead();
         feed();
         textOfSoManyBytes();
+        bytesBehindAreNone();
+        textsBehindTexts();
+        textsBehindFaults();
         textOfNone();
         faultKeepsAllElse();
         faultOfTheLatest();
@@ -191,7 +194,9 @@ public final class TextEdgesTest {
         Check.broken(2, five + "man f 6;^man g 7;");
         Check.broken(2, five + "man f 6;^man a 0;");
         Check.broken(2, five + "man f 6;^man");
-        Check.broken(3, five + "man ^a 6;");
+        for (char name = 'a'; name <= 'e'; name++) {
+            Check.broken(3, five + "man ^" + name + " 6;");
+        }
     }
 
     /** "june, at most 12: an inch 0 .. 59 of a PERSON is a JUNE (each once; one beyond the INCHES is never LEFT)" */
@@ -498,6 +503,95 @@ public final class TextEdgesTest {
         Check.due("700 bytes", Check.text(x, words + ";"), -1);
         Check.due("the last place", x.fault(1), 699);
         Check.due("700 bytes", Check.text(x, words + " "), 1);
+    }
+
+    /** "The TAPE's first n bytes .. are the TEXT": those behind them don't matter, wherever they are parted. */
+    private static void bytesBehindAreNone() {
+        String words = "man ab 15;man bc 10;june ab 11;lend ab bc;draft 12;law burn not 10<=11;";
+        for (int n = 0; n <= words.length(); n++) {
+            BurntEnds x = new BurntEnds();
+            BurntEnds alone = new BurntEnds();
+            Check.feed(x, words);
+            Check.due("the first " + n, x.text(n), Check.text(alone, words.substring(0, n)));
+            Check.due("FAULT of the first " + n, x.fault(0), alone.fault(0));
+            Check.due("its place", x.fault(1), alone.fault(1));
+            Check.due("PEOPLE", x.count(0), alone.count(0));
+            Check.due("JUNES", x.count(1), alone.count(1));
+            Check.due("as all else", Check.state(x).equals(Check.state(alone)), true);
+        }
+    }
+
+    /** A TEXT with as much of all as it may have. */
+    private static String fullText() {
+        return "man a 9;man b 9;man c 9;man d 9;man e 9;man f 9;" + lines("june a ", 12) + lines("light a 0 ", 12)
+            + lines("blow b 1 ", 8) + "lend a b;lend a c;lend a d;lend a e;lend a f;lend b a;lend b c;lend b d;"
+            + "draft 50;seed 9;law burn " + sum(30) + ";law glow 2;law recall ((((((((3))))))));";
+    }
+
+    /** Nothing of a TEXT is behind a later one: as much of all can be told once more, or nothing at all. */
+    private static void textsBehindTexts() {
+        BurntEnds x = new BurntEnds();
+        for (int k = 0; k < 3; k++) {
+            Check.due("full", Check.text(x, fullText()), 51);
+        }
+        for (int k = 0; k < 3; k++) {
+            isBare(x, "behind a full one");
+        }
+        for (int k = 0; k < 3; k++) {
+            Check.due("full again", Check.text(x, fullText()), 51);
+            isBare(x, "between full ones");
+        }
+    }
+
+    private static void isBare(BurntEnds x, String what) {
+        Check.due(what, Check.text(x, "man a 60;man b 9;"), 2);
+        int[] want = {2, 0, 0, 0, 0, 0, 69, 0, 0, 0, 0, 0, 0, 0, 0};
+        for (int k = 0; k < want.length; k++) {
+            Check.due(what + ": count(" + k + ")", x.count(k), want[k]);
+        }
+        for (int man = 0; man < 2; man++) {
+            Check.due(what + ": lenders", x.lenders(man), 0);
+            for (int k = 0; k < 12; k++) {
+                Check.due(what + ": june", x.june(man, k), 0);
+            }
+            for (int rule = 0; rule < 3; rule++) {
+                Check.due(what + ": law", x.law(rule, man), Long.MIN_VALUE);
+            }
+        }
+        Check.due(what + ": named", x.named(Check.letters("f")), -1);
+        Check.due(what + ": draft", x.calm(1, 1), 1);
+        Check.due(what + ": a draft can be told", Check.text(x, "man a 60;light a 0 0;draft 50;law burn windy;"), 4);
+        long number = 0;
+        int left = 60;
+        for (int k = 0; k < 10; k++) {
+            number = (number * 1103515245L + 12345L) & (1L << 31) - 1;
+            left -= number / 65536 % 100 < 50 ? 1 : 0;
+            x.go(1);
+            Check.due(what + ": numbers from 0 on", Check.man(x, 0, 1), left);
+        }
+    }
+
+    /** A FAULT leaves nothing for the TEXT behind it, wherever it stood. */
+    private static void textsBehindFaults() {
+        BurntEnds x = Check.told("man z 1;");
+        String full = fullText();
+        for (int n = 1; n < full.length(); n += 3) {
+            Check.text(x, full.substring(0, n) + "!");
+            Check.due("the TEXT stays", x.named(Check.letters("z")), 0);
+            Check.due("alone", x.count(0) * 10 + x.count(4), 10);
+        }
+        Check.due("a full one behind FAULTS", Check.text(x, full), 51);
+        Check.text(x, full + "!");
+        isBare(x, "behind a FAULT of a full one");
+        for (String wrong : new String[] {"law burn 1+(2*((((((3", "law burn not not (1<(2", "law burn 1 or 2 and 3<4+5*"}) {
+            Check.text(x, wrong);
+            Check.due("'(' and signs of a FAULT are gone", Check.text(x, "man a 9;law burn ((((((((2))))))))*3;"), 2);
+            Check.due("its worth", x.law(0, 0), 6);
+            Check.due("its KNOTS", x.count(4), 3);
+            Check.text(x, "!" + wrong);
+            Check.text(x, wrong);
+            Check.due("the same again", Check.text(x, "man a 9;law burn 4-1;") + x.law(0, 0), 5);
+        }
     }
 
     /** The empty TEXT: without LINES, and all is anew. */
